@@ -797,7 +797,7 @@ public final class RangeDeeds {
         // Gap i lies before range i, the last gap behind all ranges; one without a meter is no hole.
 
         int startOfGap(int gap) {
-            return gap > 0 ? endOf(gap - 1) : 0;
+            return gap > 0 ? starts.at(gap - 1) + lengths.at(gap - 1) : 0;
         }
 
         private int lengthOfGap(int gap) {
@@ -825,19 +825,19 @@ public final class RangeDeeds {
         /** Returns the first gap, or the first of the shortest or of the longest, that is long enough, or NONE. */
         int gapFor(int length, int how) {
             int best = NONE;
+            int bestLength = 0;
             for (int i = 0; i <= size; i++) {
-                if (lengthOfGap(i) >= length && (best == NONE || isBetterGap(i, best, how))) {
+                int gapLength = lengthOfGap(i);
+                if (gapLength >= length && (best == NONE || isBetter(gapLength, bestLength, how))) {
                     best = i;
+                    bestLength = gapLength;
                 }
             }
             return best;
         }
 
-        private boolean isBetterGap(int gap, int best, int how) {
-            if (how == SHORTEST_HOLE) {
-                return lengthOfGap(gap) < lengthOfGap(best);
-            }
-            return how == LONGEST_HOLE && lengthOfGap(gap) > lengthOfGap(best);
+        private static boolean isBetter(int gapLength, int bestLength, int how) {
+            return how == SHORTEST_HOLE && gapLength < bestLength || how == LONGEST_HOLE && gapLength > bestLength;
         }
 
         /** Returns the first range of the best exchange, the second one, or how many ranges it leaves, or NONE. */
@@ -1038,21 +1038,21 @@ public final class RangeDeeds {
 
     /** The states before the latest changes, the oldest one first, and behind them one that is only prepared. */
     private static final class History {
-        /** null where no state has been needed yet. */
         private final Register[] states = new Register[MOST_STATES + 1];
         private int size;
 
+        History() {
+            for (int i = 0; i < states.length; i++) {
+                states[i] = new Register();
+            }
+        }
+
         /** Takes the state before a change, of which it is not known yet whether it returns an error. */
         void prepare(Register now) {
-            if (size < 0 || size >= states.length) {
-                return;
+            Register state = size >= 0 && size < states.length ? states[size] : null;
+            if (state != null) {
+                state.copy(now);
             }
-            Register state = states[size];
-            if (state == null) {
-                state = new Register();
-                states[size] = state;
-            }
-            state.copy(now);
         }
 
         /** Records the state that was prepared if the change returns no error; returns what the change returns. */
@@ -1079,10 +1079,7 @@ public final class RangeDeeds {
 
         /** Copies the latest state, if there is one, and drops it. */
         boolean takeBack(Register now) {
-            if (size <= 0 || size > states.length) {
-                return false;
-            }
-            Register state = states[size - 1];
+            Register state = size > 0 && size <= states.length ? states[size - 1] : null;
             if (state == null) {
                 return false;
             }
@@ -1098,7 +1095,7 @@ public final class RangeDeeds {
         private int size;
         /** Where the next sign is read; behind an entry with a fault it is the place of the fault. */
         private int place;
-        private char kind;
+        private int kind;
         private int letter;
         private int number;
         private int secondNumber;

@@ -30,6 +30,9 @@ final class MeterModel {
         int day;
         int closed;
         int fees;
+        /** What the street looks like, null when it has been painted since it was looked at. */
+        private List<Range> ranges;
+        private List<Range> holes;
 
         State() {
             java.util.Arrays.fill(street, -1);
@@ -53,34 +56,38 @@ final class MeterModel {
             return owner >= 0 && owner < money.size();
         }
 
+        /** The meters of an owner, or of none (-1). */
         int meters(int owner) {
             int meters = 0;
-            for (int m : street) {
-                meters += m == owner ? 1 : 0;
+            for (Range row : owner < 0 ? holes() : ranges()) {
+                meters += row.owner == owner ? row.length : 0;
             }
             return meters;
         }
 
         List<Range> ranges() {
-            return rows(false);
+            look();
+            return ranges;
         }
 
         List<Range> holes() {
-            return rows(true);
+            look();
+            return holes;
         }
 
-        private List<Range> rows(boolean holes) {
-            List<Range> rows = new ArrayList<>();
+        private void look() {
+            if (ranges != null) {
+                return;
+            }
+            ranges = new ArrayList<>();
+            holes = new ArrayList<>();
             int first = 0;
             for (int m = 1; m <= METERS; m++) {
                 if (m == METERS || street[m] != street[first]) {
-                    if ((street[first] == -1) == holes) {
-                        rows.add(new Range(street[first], first, m - first));
-                    }
+                    (street[first] == -1 ? holes : ranges).add(new Range(street[first], first, m - first));
                     first = m;
                 }
             }
-            return rows;
         }
 
         List<Range> ranges(int owner) {
@@ -102,6 +109,8 @@ final class MeterModel {
             for (int m = first; m < first + length; m++) {
                 street[m] = owner;
             }
+            ranges = null;
+            holes = null;
         }
     }
 
@@ -240,10 +249,8 @@ final class MeterModel {
             return NOT_POSSIBLE;
         }
         State before = now.copy();
-        for (int m = 0; m < METERS; m++) {
-            if (now.street[m] == owner) {
-                now.street[m] = heir;
-            }
+        for (Range range : before.ranges(owner)) {
+            now.paint(heir, range.first, range.length);
         }
         return changed(before, meters);
     }

@@ -3,7 +3,7 @@ import java.util.Random;
 
 /** Long runs of calls, always the same ones, each answered by the program as by the plain model. */
 public final class ModelTests {
-    private static final int RUNS = 40;
+    private static final int RUNS = 120;
     private static final int CALLS = 512;
 
     private final Check check;
