@@ -33,6 +33,11 @@ final class Check {
         return wrong == 0;
     }
 
+    /** How many answers were looked at so far. */
+    int answers() {
+        return right + wrong;
+    }
+
     /** Ends the test with exit code 1 if an answer was not as due. */
     void end() {
         System.out.println(name + ": " + right + " answers as due, " + wrong + " not");

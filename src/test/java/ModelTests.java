@@ -3,8 +3,11 @@ import java.util.Random;
 
 /** Long runs of calls, always the same ones, each answered by the program as by the plain model. */
 public final class ModelTests {
-    private static final int RUNS = 120;
+    private static final int RUNS = 600;
+    /** What an object answers later is free. */
     private static final int CALLS = 512;
+    /** The most calls that oneCall() makes at once. */
+    private static final int MOST_AT_ONCE = 20;
 
     private final Check check;
     private final Random random;
@@ -28,15 +31,16 @@ public final class ModelTests {
     }
 
     private void run() {
+        int before = check.answers();
         setUp();
-        for (int i = 0; i < CALLS && check.isClean(); i++) {
+        // Some runs go far, others leave many calls to look at what there is.
+        int steps = 60 + random.nextInt(400);
+        for (int i = 0; i < steps && check.answers() - before <= CALLS - MOST_AT_ONCE && check.isClean(); i++) {
             oneCall();
-            compareShortly();
-            if (i % 16 == 0) {
-                compareAll();
-            }
         }
-        compareAll();
+        while (check.answers() - before < CALLS && check.isClean()) {
+            compareOne();
+        }
     }
 
     private void setUp() {
@@ -323,37 +327,60 @@ public final class ModelTests {
         check.due("money(" + owner + ")", deeds.money(owner), model.money(owner));
     }
 
-    private void compareShortly() {
-        for (int what : new int[] {0, 2, 3, 6, 7, 8, 9, 10, 11}) {
-            check.due("count(" + what + ")", deeds.count(what), model.count(what));
-        }
-        for (int owner = 0; owner < model.now.money.size(); owner++) {
-            check.due("money(" + owner + ")", deeds.money(owner), model.money(owner));
+    /** Compares one number of what there is. */
+    private void compareOne() {
+        int owner = random.nextInt(Math.max(model.now.money.size(), 1));
+        int range = random.nextInt(Math.max(model.now.ranges().size(), 1));
+        int transfer = random.nextInt(Math.max(model.now.deal.size(), 1));
+        int what = random.nextInt(7) - 1;
+        switch (random.nextInt(8)) {
+            case 0:
+            case 1:
+                check.due("ofRange(" + range + ", " + what % 3 + ")",
+                    deeds.ofRange(range, what % 3), model.ofRange(range, what % 3));
+                break;
+            case 2:
+                check.due("ofOwner(" + owner + ", " + what + ")", deeds.ofOwner(owner, what), model.ofOwner(owner, what));
+                break;
+            case 3:
+                check.due("ofTransfer(" + transfer + ", " + what + ")",
+                    deeds.ofTransfer(transfer, what), model.ofTransfer(transfer, what));
+                break;
+            case 4:
+                check.due("money(" + owner + ")", deeds.money(owner), model.money(owner));
+                break;
+            case 5:
+            case 6:
+                int number = random.nextInt(17);
+                check.due("count(" + number + ")", deeds.count(number), model.count(number));
+                break;
+            default:
+                compareOneAnswer(owner, what % 3);
+                break;
         }
     }
 
-    private void compareAll() {
-        for (int what = -1; what <= 17; what++) {
-            check.due("count(" + what + ")", deeds.count(what), model.count(what));
-        }
-        for (int i = -1; i <= 41; i++) {
-            for (int what = -1; what <= 3; what++) {
-                check.due("ofRange(" + i + ", " + what + ")", deeds.ofRange(i, what), model.ofRange(i, what));
-            }
-        }
-        for (int i = -1; i <= 10; i++) {
-            for (int what = -1; what <= 6; what++) {
-                check.due("ofOwner(" + i + ", " + what + ")", deeds.ofOwner(i, what), model.ofOwner(i, what));
-                check.due("ofTransfer(" + i + ", " + what + ")", deeds.ofTransfer(i, what), model.ofTransfer(i, what));
-            }
-            check.due("shareBits(" + i + ")", deeds.shareBits(i), model.shareBits(i));
-            check.due("gaps(" + i + ")", deeds.gaps(i), model.gaps(i));
-            check.due("losesIn(" + i + ")", deeds.losesIn(i), model.losesIn(i));
-        }
-        for (int what = -1; what <= 3; what++) {
-            check.due("exchange(" + what + ")", deeds.exchange(what), model.exchange(what));
-            check.due("hole(17, " + what + ")", deeds.hole(17, what), model.hole(17, what));
-            check.due("quietest(250, " + what + ")", deeds.quietest(250, what), model.quietest(250, what));
+    /** Compares one number of what would be. */
+    private void compareOneAnswer(int owner, int what) {
+        switch (random.nextInt(6)) {
+            case 0:
+                check.due("shareBits(" + owner + ")", deeds.shareBits(owner), model.shareBits(owner));
+                break;
+            case 1:
+                check.due("gaps(" + owner + ")", deeds.gaps(owner), model.gaps(owner));
+                break;
+            case 2:
+                check.due("losesIn(" + owner + ")", deeds.losesIn(owner), model.losesIn(owner));
+                break;
+            case 3:
+                check.due("exchange(" + what + ")", deeds.exchange(what), model.exchange(what));
+                break;
+            case 4:
+                check.due("hole(17, " + what + ")", deeds.hole(17, what), model.hole(17, what));
+                break;
+            default:
+                check.due("quietest(250, " + what + ")", deeds.quietest(250, what), model.quietest(250, what));
+                break;
         }
     }
 }
