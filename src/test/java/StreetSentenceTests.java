@@ -156,6 +156,19 @@ public final class StreetSentenceTests extends SentenceTest {
         due("10 meters that it has not, and 10 that it has", x.give(0, 0, 20), 1);
     }
 
+    @Sentence(in = "Promise 5", says = "only meters that the owner has not yet count")
+    void promise05MetersThatTheOwnerHasNoLonger() {
+        RangeDeeds x = withPoorOwners(2);
+        x.set(MOST, 20);
+        x.give(0, 0, 20);
+        x.free(0, 20);
+        changesNothing(x, () -> due("21 meters, 20 of which it had", x.give(0, 0, 21), NOT_POSSIBLE));
+        x.give(0, 0, 20);
+        x.give(1, 0, 20);
+        changesNothing(x, () -> due("21 meters, 20 of which it had", x.give(0, 0, 21), NOT_POSSIBLE));
+        due("20 meters that it had", x.give(0, 0, 20), 1);
+    }
+
     @Sentence(in = "Promise 5", says = "NO_SUCH if there is no such owner; BAD_VALUE if first or length is out of range;"
         + " TOO_MANY (ranges); NOT_POSSIBLE")
     void promise05ErrorsInTheirOrder() {
@@ -305,6 +318,16 @@ public final class StreetSentenceTests extends SentenceTest {
         due("count(2)", x.count(2), 7);
     }
 
+    @Sentence(in = "Promise 7", says = "of the first hole along the street that is long enough.")
+    void promise07NeitherTheShortestNorTheLongestHole() {
+        RangeDeeds x = withPoorOwners(1);
+        x.give(0, 7, 3);
+        x.give(0, 15, 5);
+        due("7 meters, then 5, then the rest", x.grab(0, 5), 0);
+        due("2 meters, then 5, then the rest", x.grab(0, 3), 10);
+        due("2 meters, then 2, then the rest", x.grab(0, 1), 5);
+    }
+
     @Sentence(in = "Promise 7", says = "This is a change.")
     void promise07IsAChange() {
         RangeDeeds x = withPoorOwners(1);
@@ -426,6 +449,22 @@ public final class StreetSentenceTests extends SentenceTest {
         due("money(0)", x.money(0), 100);
         due("money(1)", x.money(1), 200);
         due("count(1)", x.count(1), 3);
+    }
+
+    @Sentence(in = "Promise 8", says = "Gives all ranges of an owner to another one.")
+    void promise08GivesNoRangesThatWereThere() {
+        RangeDeeds x = withPoorOwners(3);
+        x.give(0, 0, 5);
+        x.give(0, 10, 5);
+        x.give(0, 20, 5);
+        x.free(20, 5);
+        due("inherit(0, 1)", x.inherit(0, 1), 10);
+        due("count(2)", x.count(2), 2);
+        due("ownerAt(20)", x.ownerAt(20), NONE);
+        x.free(10, 5);
+        due("inherit(1, 2)", x.inherit(1, 2), 5);
+        due("count(2)", x.count(2), 1);
+        due("count(3)", x.count(3), 5);
     }
 
     @Sentence(in = "Promise 8", says = "This is a change.")

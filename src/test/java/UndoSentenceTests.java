@@ -7,14 +7,18 @@ public final class UndoSentenceTests extends SentenceTest {
         new UndoSentenceTests().runAll("Promise 31", "Promise 32", "Promise 33");
     }
 
-    /** A street on which each change of oneChange() makes a difference. */
+    /** A street on which each change of oneChange() makes a difference, on day 1; no two of its numbers are alike. */
     private static RangeDeeds withAllThereIs() {
-        RangeDeeds x = withOwners(1000, 1000, 30);
+        RangeDeeds x = withOwners(1000, 2000, 30);
         x.save(0);
         x.give(0, 0, 20);
-        x.give(1, 20, 20);
+        x.give(1, 20, 21);
         x.give(2, 60, 5);
         x.transfer(0, 1, 0, 10, 4);
+        x.close();
+        x.days(1);
+        x.give(2, 70, 6);
+        x.transfer(0, 1, 10, 7, 3);
         putText(x, "d1;gA3");
         return x;
     }
@@ -129,7 +133,7 @@ public final class UndoSentenceTests extends SentenceTest {
             RangeDeeds x = withAllThereIs();
             x.undo();
             x.undo();
-            x.transfer(0, 1, 0, 10, 4);
+            x.transfer(0, 1, 10, 7, 3);
             due("changes so far", x.count(11), 5);
             due("change " + change + " is no error", Math.min(oneChange(x, change), 0), 0);
             due("change " + change + " is recorded", x.count(11), 6);
@@ -277,9 +281,9 @@ public final class UndoSentenceTests extends SentenceTest {
         for (int change = 0; change < CHANGES; change++) {
             RangeDeeds x = withAllThereIs();
             long[] before = picture(x, false);
-            due("save(1)", x.save(1), 0);
+            due("save(1)", x.save(1), 1);
             oneChange(x, change);
-            due("restore(1) behind change " + change, x.restore(1), 0);
+            due("restore(1) behind change " + change, x.restore(1), 1);
             samePicture("what was saved before change " + change, picture(x, false), before);
         }
     }
@@ -364,7 +368,7 @@ public final class UndoSentenceTests extends SentenceTest {
         for (int change = 0; change < 12; change++) {
             oneChange(x, change);
         }
-        due("restore(1)", x.restore(1), 0);
+        due("restore(1)", x.restore(1), 1);
         samePicture("what was saved last", picture(x, false), before);
     }
 

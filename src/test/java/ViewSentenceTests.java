@@ -114,6 +114,8 @@ public final class ViewSentenceTests extends SentenceTest {
         due("the third of four", x.ofOwner(0, 2), 300);
         x.free(100, 1);
         due("the longer part of it", x.ofOwner(0, 2), 222);
+        x.free(101, 300);
+        due("ranges that are no longer there", x.ofOwner(0, 2), 77);
         x.inherit(0, 1);
         due("0 again", x.ofOwner(0, 2), 0);
         x.give(0, 0, 10000);
@@ -169,6 +171,21 @@ public final class ViewSentenceTests extends SentenceTest {
         x.days(1);
         due("it is added up", x.ofOwner(0, 5), 17);
         due("ofOwner(1, 5)", x.ofOwner(1, 5), 0);
+    }
+
+    @Sentence(in = "Promise 15", says = {"4 what was paid as tax so far", "5 the meters that were lost"})
+    void promise15TaxAndLossOfAllTenOwners() {
+        RangeDeeds x = withOwners(40, 41, 42, 43, 44, 45, 46, 47, 48, 49);
+        for (int i = 0; i < 10; i++) {
+            x.give(i, 20 * i, i + 1);
+        }
+        x.days(2);
+        for (int i = 0; i < 10; i++) {
+            due("ofOwner(" + i + ", 4)", x.ofOwner(i, 4), 35);
+            due("ofOwner(" + i + ", 5)", x.ofOwner(i, 5), i + 1);
+            due("money(" + i + ")", x.money(i), 5 + i);
+        }
+        due("count(9)", x.count(9), 350);
     }
 
     @Sentence(in = "Promise 15", says = {"Returns the number;", "NO_SUCH if there is no such owner;"})

@@ -234,6 +234,20 @@ public final class WhatIfSentenceTests extends SentenceTest {
         due("two owners and a hole", x.quietest(9901, 1), 2);
     }
 
+    @Sentence(in = "Promise 23", says = "(none counts as no owner),")
+    void promise23AnOwnerWhoWasThereDoesNotCount() {
+        RangeDeeds x = withPoorOwners(2);
+        x.give(0, 0, 100);
+        x.give(1, 200, 100);
+        due("two owners", x.quietest(10000, 1), 2);
+        x.free(200, 100);
+        due("one owner", x.quietest(10000, 1), 1);
+        due("behind the only one", x.quietest(9900, 0), 100);
+        x.free(0, 100);
+        due("no owner", x.quietest(10000, 1), 0);
+        due("from the first meter on", x.quietest(1, 0), 0);
+    }
+
     @Sentence(in = "Promise 23", says = "of several the first one.")
     void promise23OfSeveralTheFirst() {
         RangeDeeds x = withPoorOwners(3);
@@ -464,12 +478,12 @@ public final class WhatIfSentenceTests extends SentenceTest {
     }
 
     @Sentence(in = "Promise 25", says = "NONE if no exchange makes the ranges fewer.")
-    void promise25NothingIsLeftOfRangesThatWere() {
-        RangeDeeds x = withRow(new int[] {0, 9}, new int[] {1, 5}, new int[] {-1, 1}, new int[] {0, 5},
-            new int[] {1, 3});
-        exchangeDue("of four ranges", x, 1, 2, 2);
-        x.free(20, 3);
-        exchangeDue("of three ranges", x, 1, 2, 2);
+    void promise25RangesThatAreNoLongerThere() {
+        RangeDeeds x = withRow(new int[] {0, 9}, new int[] {1, 5}, new int[] {0, 8}, new int[] {-1, 1},
+            new int[] {0, 5});
+        exchangeDue("of four ranges", x, 1, 3, 2);
+        x.free(23, 5);
+        noExchangeDue("of three ranges", x);
         x.free(0, 9);
         noExchangeDue("of two ranges", x);
     }
