@@ -488,6 +488,17 @@ public final class WhatIfSentenceTests extends SentenceTest {
         noExchangeDue("of two ranges", x);
     }
 
+    @Sentence(in = "Promise 25", says = "so that there would be the fewest ranges behind it;")
+    void promise25NotJoinedWithRangesThatAreNoLongerThere() {
+        RangeDeeds x = withRow(new int[] {0, 9}, new int[] {1, 5}, new int[] {-1, 1}, new int[] {0, 5},
+            new int[] {1, 3});
+        exchangeDue("joined on both sides", x, 1, 2, 2);
+        x.free(20, 3);
+        exchangeDue("joined before", x, 1, 2, 2);
+        x.free(0, 9);
+        noExchangeDue("not joined at all", x);
+    }
+
     // ---- losesIn
 
     @Sentence(in = "Promise 26", says = "Tells after how many days an owner would have lost a range, if nothing else is"
