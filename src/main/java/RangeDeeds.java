@@ -306,7 +306,8 @@ public final class RangeDeeds {
         history.prepare(register);
         int done = 0;
         pad.place = 0;
-        while (pad.place < pad.size && pad.readEntry() && carryEntry() >= 0) {
+        // A pad has fewer entries than characters, so its end, where no entry is read, comes before the bound.
+        while (done < MOST_CHARACTERS && pad.readEntry() && carryEntry() >= 0) {
             done++;
             // Over the semicolon, behind which the next entry begins.
             pad.place++;
